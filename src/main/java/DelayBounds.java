@@ -76,9 +76,6 @@ public final class DelayBounds {
         marked = new boolean[MARKS];
         settling = new Settling(told);
         triedTotals = new int[MOST_NODES * MOST_CURVES * MOST_FLOWS];
-        for (int i = 0; i < triedTotals.length; i++) {
-            triedTotals[i] = UNKNOWN;
-        }
         rowA = new int[REACH + 1];
         rowB = new int[REACH + 1];
         rowC = new int[REACH + 1];
@@ -382,17 +379,17 @@ public final class DelayBounds {
 
     private int paidOnce(int flow) {
         int atFifo = 0;
-        int folded = 0;
+        boolean isFolded = false;
         for (int hop = 0; hop < told.hops[flow]; hop++) {
             int node = told.way[flow][hop];
             if (told.discipline[node] == FIFO) {
                 atFifo += settling.delays[flow][hop];
             } else {
-                foldOn(flow, node, folded == 0);
-                folded++;
+                foldOn(flow, node, !isFolded);
+                isFolded = true;
             }
         }
-        if (folded == 0) {
+        if (!isFolded) {
             return atFifo;
         }
         told.curve[told.flowCurve[flow]].fill(rowB, 0);
@@ -1088,7 +1085,6 @@ public final class DelayBounds {
 
         private boolean readValues(Curve c) {
             int least = 0;
-            c.length = 0;
             for (int i = 0; i <= MOST_VALUES && (i == 0 || tape.kind == Tape.NUMBER); i++) {
                 if (!tape.hasNumber(least, MOST_AMOUNT)) {
                     return false;
@@ -1302,7 +1298,6 @@ public final class DelayBounds {
             }
             tape.step();
             flow[lines] = NONE;
-            many[lines] = 0;
             if (kind == Tape.PUT && !readPut(tape, net)) {
                 return false;
             }
@@ -1638,7 +1633,7 @@ public final class DelayBounds {
             servedMany[node] = many;
             busy[node] = many < queued[node] ? busy[node] + 1 : 0;
             for (int i = 0; i < many; i++) {
-                int place = Math.max(0, nextPlace(net.discipline[node], node, turn));
+                int place = nextPlace(net.discipline[node], node, turn);
                 served[node][i] = queue[node][place];
                 turn = served[node][i] / BIRTHS;
                 takeOut(node, place);
@@ -1650,22 +1645,26 @@ public final class DelayBounds {
             return c.at(busy[node] + 1) - c.at(busy[node]);
         }
 
-        /** Where the UNIT stands that is served next, behind one of the FLOW whose turn it was (NONE: none was). */
+        /**
+         * Where the UNIT stands that is served next, behind one of the FLOW whose turn it was (NONE: none was). It is
+         * asked for only where UNITS are; 0 at least, so that it is a place in any case.
+         */
         private int nextPlace(int discipline, int node, int turn) {
-            switch (discipline) {
-                case FIFO:
-                    return 0;
-                case BLIND:
-                    return queued[node] - 1;
-                case FIRST:
-                    return firstPlaceAbove(node, NONE);
-                default:
-                    int place = firstPlaceAbove(node, turn);
-                    return place == NONE ? firstPlaceAbove(node, NONE) : place;
+            int place = 0;
+            if (discipline == BLIND) {
+                place = queued[node] - 1;
+            } else if (discipline == FIRST) {
+                place = firstPlaceAbove(node, NONE);
+            } else if (discipline == FAIR) {
+                place = firstPlaceAbove(node, turn);
+                if (place == NONE) {
+                    place = firstPlaceAbove(node, NONE);
+                }
             }
+            return Math.max(0, place);
         }
 
-        /** The first UNIT of the FLOW with the least number above that one. */
+        /** The first UNIT of the FLOW with the least number above that one; NONE: there is none. */
         private int firstPlaceAbove(int node, int flow) {
             int best = NONE;
             int least = MOST_FLOWS;
@@ -1695,8 +1694,7 @@ public final class DelayBounds {
             if (queued[node] == 0 || quota(net, node) <= 0) {
                 return NONE;
             }
-            int place = Math.max(0, nextPlace(net.discipline[node], node, NONE));
-            return queue[node][place] / BIRTHS;
+            return queue[node][nextPlace(net.discipline[node], node, NONE)] / BIRTHS;
         }
 
         boolean keepsTo(Curve c, int flow) {

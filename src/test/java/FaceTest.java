@@ -88,7 +88,8 @@ public final class FaceTest {
             told.due("fields of " + c + ": " + fields, fields <= 20, true);
             for (Method m : c.getDeclaredMethods()) {
                 told.due("parameters of " + m, m.getParameterCount() <= 7, true);
-                told.due("a name of the face: " + m, c != DelayBounds.class && names.contains(m.getName()), false);
+                boolean isFace = c == DelayBounds.class && Modifier.isPublic(m.getModifiers());
+                told.due("a name of the face: " + m, !isFace && names.contains(m.getName()), false);
             }
             if (c != DelayBounds.class) {
                 told.due("static: " + c, Modifier.isStatic(c.getModifiers()), true);

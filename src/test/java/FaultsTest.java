@@ -165,6 +165,9 @@ public final class FaultsTest {
         net(1, "loses 1 < 2 `= 3;");
         net(0, "loses (1 < 2) < 3;");
         net(1, "loses not `< 3;");
+        net(1, "loses 1 + `< 3 4;");
+        net(1, "loses 1 and `+ 2 2;");
+        net(1, "loses not `* 2 2;");
         net(0, "loses ((((1))));");
         net(5, "loses (((((`1)))));");
         net(5, "loses (((((`queue)))));");

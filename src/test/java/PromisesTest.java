@@ -416,6 +416,11 @@ public final class PromisesTest {
         told.due("hop by hop", y.total(0), 6);
         told.due("folded", y.once(0), 4);
         told.due("saves", y.saves(0), 2);
+        // two, served by four and then by one: 2 t against t, LATE by 60 only at 120
+        DelayBounds w = Told.of(RATES + "curve four is 0 again 1 adds 4 ; node m blind serves four ; "
+            + "node n fair serves one ; flow f sends two over m n ;");
+        told.due("by 60 on the whole", w.total(0), 60);
+        told.due("once by 60", w.once(0), 60);
         // hop by hop each is by 60, but folded it is not
         DelayBounds z = Told.of("curve a is 0 0 0 again 1 adds 1;curve b is 0 3 again 2 adds 8;"
             + "curve c is 0 1 1 again 2 adds 3;node m blind serves b;node n first serves b;node o blind serves c;"
@@ -563,6 +568,7 @@ public final class PromisesTest {
         kept(3, "not ( 0 + 1 )");
         kept(0, "not not 5 = 1");
         kept(0, "( 3 < 4 ) = 1");
+        kept(0, "( 3 = 3 ) = 1");
         kept(0, "( 2 and 3 ) = 1");
         kept(0, "( 0 or 9 ) = 1");
         kept(3, "2 - 2");
@@ -570,6 +576,10 @@ public final class PromisesTest {
         // 65536 * 65536 wraps to 0; 32768 * 65536 is the least int
         kept(3, "256 * 256 * 256 * 256");
         kept(0, "128 * 256 * 256 * 256 < 0");
+        // as much waits at once as can
+        String deep = "0 or 1 = 0 + 1 * ";
+        kept(0, deep + "( " + deep + "( " + deep + "( " + deep + "( " + deep + "1 ) ) ) )");
+        kept(3, deep + "( " + deep + "( " + deep + "( " + deep + "( " + deep + "0 ) ) ) )");
         kept(2, "queue = 2");
         kept(1, "queue = 1");
         kept(1, "here = 2");
@@ -941,6 +951,23 @@ public final class PromisesTest {
         told.due("latest there", x.latest(0), 2);
         told.due("back once more", x.mark(0, true), true);
         told.due("time 1", x.count(3), 1);
+        DelayBounds y = Told.of(RATES + "node n fifo serves two ; flow f sends two over n ;");
+        y.mark(1, false);
+        for (int i = 0; i < 59; i++) {
+            y.tick();
+        }
+        y.put(0, 9);
+        y.see(2, 5, true);
+        y.see(3, 8, true);
+        y.mark(0, false);
+        told.due("back to the begin", y.mark(1, true), true);
+        y.see(1, 2, false);
+        y.see(1, 2, true);
+        told.due("none is SEEN so", y.who(), 0);
+        told.due("fits", y.fits(0), true);
+        told.due("back to the end", y.mark(0, true), true);
+        told.due("who there", y.who(), 4);
+        told.due("fits not", y.fits(0), false);
         told.due("MARK 2", x.mark(2, false), false);
         for (int wild : WILD) {
             told.due("mark " + wild, x.mark(wild, false), false);
