@@ -185,7 +185,7 @@ public final class DelayBounds {
             case 1:
                 return told.nodeCurve[node];
             case 2:
-                return told.flowsOver(node);
+                return told.over[node];
             case 3:
                 return live.queued[node];
             case 4:
@@ -777,6 +777,8 @@ public final class DelayBounds {
         final int[] flowCurve = new int[MOST_FLOWS];
         final int[] hops = new int[MOST_FLOWS];
         final int[][] way = new int[MOST_FLOWS][MOST_NODES];
+        /** FLOWS over each NODE, as bits. */
+        final int[] over = new int[MOST_NODES];
         final Law law = new Law();
         int curves;
         int nodes;
@@ -795,6 +797,9 @@ public final class DelayBounds {
             flows = 0;
             hasLaw = false;
             law.reset();
+            for (int node = 0; node < MOST_NODES; node++) {
+                over[node] = 0;
+            }
         }
 
         static int find(long[] names, int many, long name) {
@@ -819,16 +824,6 @@ public final class DelayBounds {
                 }
             }
             return NONE;
-        }
-
-        int flowsOver(int node) {
-            int bits = 0;
-            for (int flow = 0; flow < flows; flow++) {
-                if (hopAt(flow, node) != NONE) {
-                    bits |= 1 << flow;
-                }
-            }
-            return bits;
         }
     }
 
@@ -972,7 +967,7 @@ public final class DelayBounds {
             kind = behind - place > MOST_DIGITS ? NOTHING : NUMBER;
         }
 
-        private static int kindOfSign(char sign) {
+        private static int kindOfSign(int sign) {
             switch (sign) {
                 case OPEN:
                 case CLOSE:
@@ -1026,7 +1021,7 @@ public final class DelayBounds {
         NetReader(Tape tape, Net net) {
             this.tape = tape;
             this.net = net;
-            laws = new LawReader(tape, net.law);
+            laws = new LawReader(tape);
         }
 
         int read(Net into) {
@@ -1193,6 +1188,7 @@ public final class DelayBounds {
             }
             net.way[at][net.hops[at]] = node;
             net.hops[at]++;
+            net.over[node] |= 1 << at;
             tape.step();
             return true;
         }
@@ -1204,7 +1200,7 @@ public final class DelayBounds {
             }
             net.hasLaw = true;
             tape.step();
-            if (laws.read(net.law)) {
+            if (laws.readPairs(net.law, Law.WEAKEST, 0)) {
                 tape.take(Tape.STOP);
             }
         }
@@ -1213,23 +1209,17 @@ public final class DelayBounds {
     /** E by the strength of its signs: and, or bind least, * most. */
     private static final class LawReader {
         private final Tape tape;
-        private Law law;
 
-        LawReader(Tape tape, Law law) {
+        LawReader(Tape tape) {
             this.tape = tape;
-            this.law = law;
         }
 
-        boolean read(Law into) {
-            law = into;
-            return readPairs(Law.WEAKEST, 0);
-        }
-
-        private boolean readPairs(int strength, int depth) {
+        /** Reads what signs of that strength and stronger ones hold together, within so many of not and ( ). */
+        boolean readPairs(Law law, int strength, int depth) {
             if (strength > Law.STRONGEST) {
-                return readPart(depth);
+                return readPart(law, depth);
             }
-            if (!readPairs(strength + 1, depth)) {
+            if (!readPairs(law, strength + 1, depth)) {
                 return false;
             }
             // a TEST holds one < or = at most
@@ -1237,7 +1227,7 @@ public final class DelayBounds {
             for (int i = 0; i < most && Law.strengthOf(tape.kind) == strength; i++) {
                 int sign = tape.kind;
                 tape.step();
-                if (!readPairs(strength + 1, depth)) {
+                if (!readPairs(law, strength + 1, depth)) {
                     return false;
                 }
                 law.add(-sign);
@@ -1245,25 +1235,32 @@ public final class DelayBounds {
             return true;
         }
 
-        private boolean readPart(int depth) {
-            boolean isLeaf = tape.kind == Tape.NUMBER || tape.isFact();
-            if (!isLeaf && tape.kind != Tape.NOT && tape.kind != Tape.OPEN) {
+        private boolean readPart(Law law, int depth) {
+            int kind = tape.kind;
+            boolean isLeaf = kind == Tape.NUMBER || tape.isFact();
+            if (!isLeaf && kind != Tape.NOT && kind != Tape.OPEN) {
                 return tape.wrong(CANT_STAND);
             }
             if (depth >= MOST_DEPTH) {
                 return tape.wrong(TOO_MANY);
             }
-            int kind = tape.kind;
+            int leaf = kind == Tape.NUMBER ? tape.number : -kind;
+            tape.step();
             if (isLeaf) {
-                law.add(kind == Tape.NUMBER ? tape.number : -kind);
+                law.add(leaf);
+                return true;
+            }
+            if (kind == Tape.OPEN) {
+                if (!readPairs(law, Law.WEAKEST, depth + 1)) {
+                    return false;
+                }
+                if (tape.kind != Tape.CLOSE) {
+                    return tape.wrong(CANT_STAND);
+                }
                 tape.step();
                 return true;
             }
-            tape.step();
-            if (kind == Tape.OPEN) {
-                return readPairs(Law.WEAKEST, depth + 1) && tape.take(Tape.CLOSE);
-            }
-            if (!readPart(depth + 1)) {
+            if (!readPart(law, depth + 1)) {
                 return false;
             }
             law.add(-Tape.NOT);
@@ -1455,7 +1452,7 @@ public final class DelayBounds {
 
         void fillLeft(int flow, int node, int[] row) {
             int discipline = net.discipline[node];
-            int sharers = discipline == FAIR ? Math.max(1, Integer.bitCount(net.flowsOver(node))) : 1;
+            int sharers = discipline == FAIR ? Math.max(1, Integer.bitCount(net.over[node])) : 1;
             int below = discipline == FIRST ? flow : net.flows;
             int most = 0;
             for (int t = 0; t <= REACH; t++) {
