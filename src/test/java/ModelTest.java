@@ -207,6 +207,34 @@ public final class ModelTest {
         return true;
     }
 
+    /** NETS that random runs seldom meet: settled in the 60th ROUND, not by then, and by 60 but without ONCE. */
+    private static final String[] SELDOM = {
+        "curve a is 0 1 again 2 adds 1;curve b is 0 1 3 again 3 adds 5;node m fifo serves b;node n fifo serves b;"
+            + "node o blind serves b;node p blind serves b;flow w sends a over p o m n;flow x sends a over n p;"
+            + "flow y sends a over p o n;",
+        "curve a is 0 2 2 again 2 adds 2;curve b is 0 again 1 adds 2;curve c is 0 3 5 again 3 adds 10;"
+            + "node m blind serves b;node n blind serves c;node o blind serves c;node p blind serves b;"
+            + "flow w sends a over m n o;flow x sends a over o m n;",
+        "curve a is 0 0 0 again 1 adds 1;curve b is 0 3 again 2 adds 8;curve c is 0 1 1 again 2 adds 3;"
+            + "node m blind serves b;node n first serves b;node o blind serves c;"
+            + "flow w sends a over m o n;flow x sends a over o n;"};
+
+    private boolean seldomRun(String net) throws Exception {
+        log.clear();
+        DelayBounds x = new DelayBounds();
+        Model model = new Model();
+        boolean same = tell(x, model, net, "net") && same(x, model, named("rounds"));
+        for (int flow = 0; flow < 4 && same; flow++) {
+            same = same(x, model, named("total"), flow) && same(x, model, named("once"), flow)
+                && same(x, model, named("saves"), flow);
+            for (int hop = 0; hop < 4 && same; hop++) {
+                same = same(x, model, named("delay"), flow, hop) && same(x, model, named("left"), flow, hop, 60)
+                    && same(x, model, named("tune"), hop, flow);
+            }
+        }
+        return same;
+    }
+
     public static void main(String[] args) throws Exception {
         Map<String, Integer> told = new java.util.TreeMap<>();
         int runs = args.length > 1 ? Integer.parseInt(args[1]) : RUNS;
@@ -217,6 +245,12 @@ public final class ModelTest {
                 System.exit(1);
             }
             test.telling.forEach((name, n) -> told.merge(name, n, Integer::sum));
+        }
+        for (String net : SELDOM) {
+            if (!new ModelTest(0).seldomRun(net)) {
+                System.out.println("not as the model's: " + net);
+                System.exit(1);
+            }
         }
         for (Method m : new ModelTest(0).calls) {
             if (!told.containsKey(m.getName())) {

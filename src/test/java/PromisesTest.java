@@ -1,4 +1,7 @@
-/** Answers worked out by hand from the document, promise by promise; the FAULTS of 3 and 4 are in FaultsTest. */
+/**
+ * Answers worked out by hand from the document, promise by promise, but for three NETS that were found by a search and
+ * that ModelTest holds against the model, too; the FAULTS of 3 and 4 are in FaultsTest.
+ */
 public final class PromisesTest {
     private static final Told told = new Told();
     private static final int NONE = DelayBounds.NONE;
@@ -310,10 +313,11 @@ public final class PromisesTest {
         String alone = RATES + "curve more is 1 again 1 adds 2 ; node n fifo serves one ; flow f sends ";
         told.due("LATE by 60", Told.of(alone + "two over n ;").rounds(), 2);
         told.due("LATE by 61", Told.of(alone + "more over n ;").rounds(), NONE);
+        // found by a search
         told.due("in 60 ROUNDS", Told.of("curve a is 0 1 again 2 adds 1;curve b is 0 1 3 again 3 adds 5;"
             + "node m fifo serves b;node n fifo serves b;node o blind serves b;node p blind serves b;"
             + "flow w sends a over p o m n;flow x sends a over n p;flow y sends a over p o n;").rounds(), 60);
-        // all are by 60 in it, and none would change in a 61st
+        // found by a search: all are by 60 in it, and none would change in a 61st
         told.due("not in 60 ROUNDS", Told.of("curve a is 0 2 2 again 2 adds 2;curve b is 0 again 1 adds 2;"
             + "curve c is 0 3 5 again 3 adds 10;node m blind serves b;node n blind serves c;node o blind serves c;"
             + "node p blind serves b;flow w sends a over m n o;flow x sends a over o m n;").rounds(), NONE);
@@ -421,7 +425,7 @@ public final class PromisesTest {
             + "node n fair serves one ; flow f sends two over m n ;");
         told.due("by 60 on the whole", w.total(0), 60);
         told.due("once by 60", w.once(0), 60);
-        // hop by hop each is by 60, but folded it is not
+        // found by a search: hop by hop each is by 60, but folded it is not
         DelayBounds z = Told.of("curve a is 0 0 0 again 1 adds 1;curve b is 0 3 again 2 adds 8;"
             + "curve c is 0 1 1 again 2 adds 3;node m blind serves b;node n first serves b;node o blind serves c;"
             + "flow w sends a over m o n;flow x sends a over o n;");
