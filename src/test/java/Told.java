@@ -68,6 +68,10 @@ final class Told {
         }
     }
 
+    int looked() {
+        return looked;
+    }
+
     void end() {
         System.out.println(looked + " answers, " + wrong + " of them not as due");
         if (wrong != 0) {
