@@ -67,6 +67,22 @@ public final class FaceTest {
         told.due("public, of no arguments", all[0].getParameterCount() == 0 && Modifier.isPublic(all[0].getModifiers()), true);
     }
 
+    /** The list above is the document's: it is looked up there, where the document is at hand. */
+    private static void documentsFace(Path document) throws IOException {
+        if (!Files.isReadable(document)) {
+            System.out.println("no document at " + document + ": its face is not looked up");
+            return;
+        }
+        Set<String> got = new TreeSet<>();
+        Matcher m = Pattern.compile("public (\\w+) (\\w+)\\(([^)]*)\\)( throws NoSuchElementException)?;")
+            .matcher(Files.readString(document));
+        while (m.find()) {
+            String types = m.group(3).replaceAll(" \\w+(, |$)", "$1").replace(", ", ",");
+            got.add(m.group(2) + "(" + types + ") " + m.group(1) + (m.group(4) == null ? "" : " throws"));
+        }
+        told.due("the document's face: " + got, got.equals(new TreeSet<>(Arrays.asList(FACE))), true);
+    }
+
     private static void classes() {
         Set<String> names = new TreeSet<>();
         for (String method : FACE) {
@@ -128,6 +144,7 @@ public final class FaceTest {
 
     public static void main(String[] args) throws IOException {
         face();
+        documentsFace(Path.of("..", "shared", "DOC.md"));
         classes();
         // .ci/run says which source the class was compiled from
         source(Path.of(args.length > 0 ? args[0] : "src/main/java/DelayBounds.java"));
